@@ -319,6 +319,8 @@ public final class PromiseTest {
         due.is("far over all PARISHES", x.far(0, 11, 1), 99);
         due.is("far back", x.far(11, 0, 0), 99);
         due.is("enclave(11)", x.enclave(11), 0);
+        x.seat(0, 11);
+        due.is("enclave(0), SEAT at the other end", x.enclave(0), 0);
         x.wagon(0, 0);
         due.is("send over all PARISHES", x.send(0, 11), 99);
         due.is("where(0, 98)", x.where(0, 98), 10);
@@ -458,6 +460,8 @@ public final class PromiseTest {
         due.is("half of 7, SIDE 0", x.pension(0, 7, 0), 3);
         due.is("half of 7, SIDE 1", x.pension(0, 7, 1), 4);
         due.is("half of 0", x.pension(0, 0, 1), 0);
+        x.work(0, 1, 0);
+        due.is("one MONTH in all", x.pension(0, 7, 0), 7);
         x.work(0, 2, 1);
         due.is("two thirds of 100000", x.pension(0, 100000, 0), 66666);
         due.is("the rest", x.pension(0, 100000, 1), 33334);
@@ -596,6 +600,8 @@ public final class PromiseTest {
         due.is("one ends at 3", x.differ(), 3);
         propose(x, 0, "c1;ds;");
         due.is("unlike at 4", x.differ(), 4);
+        propose(x, 0, "k1;dl;");
+        due.is("unlike at 0", x.differ(), 0);
         propose(x, 0, "c1;dl;");
         due.is("alike", x.differ(), -1);
         PartedLand y = new PartedLand();
@@ -779,6 +785,12 @@ public final class PromiseTest {
         enact(x, "s49;");
         due.is("25: 24 or 26, the first goes to SIDE 0", x.goes(0), 0);
         due.is("25: nearest, all others too", x.goes(12), 0);
+        PartedLand y = twoParishes();
+        y.thing(3000, 4);
+        y.thing(3000, 5);
+        enact(y, "s56;");
+        due.is("5 is the aim: 4 is near, but 5 is nearest", y.goes(0), 1);
+        due.is("so 5 stays", y.goes(1), 0);
     }
 
     private static void goesByDebts() {
@@ -1009,6 +1021,7 @@ public final class PromiseTest {
         due.begin("promise 30");
         PartedLand x = railways();
         x.wagon(0, 0);
+        due.is("to where it is on DAY 0", x.send(0, 0), 0);
         due.is("send(0, 4)", x.send(0, 4), 6);
         due.is("by the least PARISH", x.where(0, 2), 1);
         due.is("no RAILS lead there", x.send(0, 5), NONE);
@@ -1030,6 +1043,25 @@ public final class PromiseTest {
         x.day(400);
         due.is("above DAY 400", x.send(0, 0), 403);
         due.is("on its way", x.where(0, 400), 3);
+        leastParishFirst();
+    }
+
+    private static void leastParishFirst() {
+        // From 3 to 4 by 0 or by 1 or by 2, told in each order.
+        for (int first = 0; first < 3; first++) {
+            PartedLand x = new PartedLand();
+            for (int i = 0; i < 5; i++) {
+                x.parish(i, i);
+            }
+            for (int i = 0; i < 3; i++) {
+                int over = (first + i) % 3;
+                x.edge(3, over, 2, 1);
+                x.edge(4, over, 2, 1);
+            }
+            x.wagon(0, 3);
+            due.is("send(0, 4), three ways", x.send(0, 4), 4);
+            due.is("by PARISH 0", x.where(0, 3), 0);
+        }
     }
 
     private static void where() {
@@ -1296,6 +1328,15 @@ public final class PromiseTest {
         isBest("2 behind 0", x, 5, 0, 2, 3);
         x.ahead(3, 0);
         isBest("0 behind 3", x, 5, 3, 0, 2);
+        PartedLand y = new PartedLand();
+        y.task(3);
+        isBest("one TASK", y, 3, 0);
+        y.task(2);
+        y.task(2);
+        y.task(1);
+        y.ahead(0, 3);
+        y.day(361);
+        isBest("0 and 3, or 1 and 2", y, 4, 0, 3);
     }
 
     private static void tell() {
@@ -1372,7 +1413,7 @@ public final class PromiseTest {
             x.task(1);
         }
         enact(x, "pw;");
-        x.work(0, 1, 0);
+        x.work(1, 1, 0);
         feedText(x, "0123456789");
         x.day(11);
         for (int i = 0; i < 12; i++) {
