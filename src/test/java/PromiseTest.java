@@ -62,6 +62,7 @@ public final class PromiseTest {
         count();
         found();
         findingsChangeNothing();
+        fullRows();
         due.end();
     }
 
@@ -526,8 +527,10 @@ public final class PromiseTest {
         due.is("what was faulty isn't held to", x.differ(), 3);
         due.is("both alike anew", propose(x, 1, "c2;"), 1);
         due.is("law(3) anew", x.law(3), 2);
-        due.is("50 bytes", propose(x, 0, "c1;c1;c1;c1;c1;c1;c1;c1;c1;c1;c1;c1;c1;c1;c1;c1;k"), -59);
-        due.is("50 bytes without fault", propose(x, 0, "c1;c1;c1;c1;c1;c1;c1;c1;c1;c1;c1;c1;c1;c1;s12;k77;"), 0);
+        due.is("50 bytes, ended too early", propose(x, 0, "c1;".repeat(16) + "k7"), -60);
+        due.is("50 bytes, fault at the last", propose(x, 0, "c1;".repeat(16) + "k;"), -59);
+        due.is("bytes of earlier texts don't count", propose(x, 0, "c1"), -12);
+        due.is("50 bytes without fault", propose(x, 0, "c1;".repeat(14) + "s12;k77;"), 0);
     }
 
     private static void faults() {
@@ -1480,5 +1483,55 @@ public final class PromiseTest {
         x.day(401);
         due.is("the DAY", x.count(10), 9);
         due.is("counted", x.found(1), 7);
+    }
+
+    /** Where all is at its most, every call must still look no further than its rows go. */
+    private static void fullRows() {
+        due.begin("all at its most");
+        PartedLand x = new PartedLand();
+        for (int i = 0; i < 12; i++) {
+            x.parish(i < 6 ? 10 : 90, i);
+        }
+        for (int i = 0; i < 30; i++) {
+            x.edge(i % 12, (i + 1) % 12, 9, 1);
+        }
+        for (int i = 0; i < 8; i++) {
+            x.peg(50, i);
+        }
+        for (int i = 0; i < 16; i++) {
+            x.person(0, i % 12);
+            x.hoard(i, 9999);
+        }
+        x.thing(1000, 1);
+        for (int i = 1; i < 24; i++) {
+            x.thing(3000, 10000);
+        }
+        for (int i = 1; i < 13; i++) {
+            x.tie(i, i + 1);
+        }
+        for (int i = 0; i < 10; i++) {
+            x.wagon(i % 2, i);
+            x.open(i, i, 9, -1);
+        }
+        x.week(1200, 9999, 9);
+        due.is("far(0, 6, 1)", x.far(0, 6, 1), 54);
+        due.is("side(11)", x.side(11), 1);
+        due.is("count(12)", x.count(12), 6);
+        due.is("count(13)", x.count(13), 0);
+        due.is("whose(15, 2)", x.whose(15, 2), 0);
+        // Of PERSONS at 0, 5, 6 .. 11, 0 (12): 0 and 5 are an EDGE off SIDE 1.
+        due.is("stamp(1, 2)", x.stamp(1, 2), 3 * 9999);
+        due.is("stamp(1, 1)", x.stamp(1, 1), 9 * 9999);
+        due.is("stamp(1, 0)", x.stamp(1, 0), 9 * 19998);
+        due.is("stamp(0, 0)", x.stamp(0, 0), 7 * 99);
+        due.is("rest(2)", x.rest(2), 11);
+        due.is("rest(1)", x.rest(1), 230000);
+        due.is("rest(0): 130000 or 100000 of 115000", x.rest(0), -15000);
+        due.is("goes(23)", x.goes(23), 1);
+        due.is("send(9, 3)", x.send(9, 3), 54);
+        due.is("by the least PARISH at each step", x.where(9, 9), 8);
+        due.is("home(9)", x.home(9), 1);
+        due.is("court(9)", x.court(9), 1);
+        due.is("no finding was answered", x.found(1) + x.found(2) + x.found(3) + x.found(4) + x.found(5), 0);
     }
 }
