@@ -351,13 +351,10 @@ public final class PartedLand {
         }
         int sum = 0;
         for (int person = 0; person < people.persons; person++) {
-            if (what == 0) {
-                sum += coinWeek.stampedOf(person, side, people, land);
-            } else if (what == 1) {
-                sum += coinWeek.coinOf(person, side, people, land);
-            } else {
-                sum += coinWeek.broughtBy(person, side, people, land);
-            }
+            int coin = what == 2
+                ? coinWeek.broughtBy(person, side, people, land)
+                : coinWeek.coinOf(person, side, people, land);
+            sum += what == 0 ? coinWeek.stampedOf(coin, side) : coin;
         }
         return sum;
     }
@@ -1323,8 +1320,8 @@ public final class PartedLand {
             return side == 0 ? firstRate : secondRate;
         }
 
-        int stampedOf(int person, int side, People people, Land land) {
-            return coinOf(person, side, people, land) * rateOf(side) / 100;
+        int stampedOf(int coin, int side) {
+            return coin * rateOf(side) / 100;
         }
 
         int coinOf(int person, int side, People people, Land land) {
