@@ -12,14 +12,14 @@ final class Due {
     private String part = "";
 
     void begin(String name) {
-        part = name;
+        part = name + ": ";
     }
 
     void is(String call, int got, int want) {
         asked++;
         if (got != want) {
             wrong++;
-            System.out.println(part + ": " + call + " answered " + got + ", due is " + want);
+            System.out.println(part + call + " answered " + got + ", due is " + want);
         }
     }
 
@@ -27,7 +27,7 @@ final class Due {
         asked++;
         if (!so) {
             wrong++;
-            System.out.println(part + ": " + what);
+            System.out.println(part + what);
         }
     }
 
