@@ -127,6 +127,8 @@ public final class CasesBoundaryTest {
         }
         Run y = withPaper("promise 36, c 9 at first").make("open(0, 0, 8, -1)", "open(0, 0, 9, -1)", "open(1, 0, 9, -1)");
         y.due("court(0)", 1).due("court(1)", 0).due("court(2)", 1);
+        // Each CASE has its own court and PERSON.
+        y.make("person(1, 0)", "open(1, 1, 8, -1)").due("court(3)", 0).due("court(0)", 1);
         // Only THE LAW counts, not what one HOUSE holds to.
         y.propose(0, "c1;", 0).due("court(0)", 1).propose(1, "c1;", 1).due("court(0)", 0);
     }
@@ -269,6 +271,9 @@ public final class CasesBoundaryTest {
         // 1, 49 and 50 are 100 DAYS: three fit to the DAY.
         best(x, 100, 1, 3, 5).make("day(266)");
         best(x, 50, 3, 5);
+        // Fewer DAYS count ahead of the lesser TASK: 1 and 2, not 0 and 3.
+        best(new Run(due, "promise 40, the fewest DAYS").make("day(359)", "task(3)", "task(2)", "task(2)", "task(3)"), 4, 1, 2);
+        best(new Run(due, "promise 40, the fewest DAYS of one").make("day(360)", "task(5)", "task(4)", "task(3)", "task(4)"), 3, 2);
     }
 
     private static void promise40LesserTaskFirst() {
@@ -282,6 +287,8 @@ public final class CasesBoundaryTest {
         best(y, 3, 0, 3, 2).make("ahead(4, 2)");
         best(y, 3, 0, 3, 4).make("ahead(3, 0)");
         best(y, 3, 3, 0, 4);
+        // 0, 2, 4, 1 and 0, 2, 3, 4 differ at the third place.
+        best(new Run(due, "promise 40, the third place").make("day(361)").times(5, "task(1)").make("ahead(4, 1)"), 4, 0, 2, 3, 4);
     }
 
     private static void promise40AllThatIsAhead() {

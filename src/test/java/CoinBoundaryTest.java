@@ -134,6 +134,9 @@ public final class CoinBoundaryTest {
         x.make("edge(1, 2, 5, 1)", "person(0, 0)", "hoard(0, 50)", "week(100101, 9999, 9)").due("stamp(1, 2)", 50);
         x.make("week(100101, 9999, 8)").due("stamp(1, 2)", 0).make("move(0, 1)").due("stamp(1, 2)", 50);
         x.make("week(100101, 9999, 4)").due("stamp(1, 2)", 0);
+        // Each PERSON from its own HOME.
+        x.make("person(0, 0)", "hoard(1, 7)", "week(100101, 9999, 5)").due("stamp(1, 2)", 50).make("week(100101, 9999, 9)").due("stamp(1, 2)", 57);
+        x.make("move(0, 0)", "move(1, 1)", "week(100101, 9999, 5)").due("stamp(1, 2)", 7);
     }
 
     private static void promise28SomeParishOfTheOtherSide() {
@@ -232,6 +235,17 @@ public final class CoinBoundaryTest {
         x.due("where(0, 0)", 0).due("where(0, 1)", 1).due("where(0, 2)", 3).due("where(0, 3)", 3).due("where(0, 4)", 5);
         // The way back from 5: 3 is the least at the first step, then 1.
         x.make("wagon(0, 5)").due("send(1, 0)", 4).due("where(1, 1)", 5).due("where(1, 2)", 3).due("where(1, 3)", 1).due("where(1, 4)", 0);
+        // PARISH 0 is the least, wherever its EDGES stand.
+        for (String order : new String[] {"0 1 2", "2 1 0", "1 0 2"}) {
+            Run three = new Run(due, "promise 30, PARISH 0 of " + order).times(5, "parish(1, 1)");
+            for (String over : order.split(" ")) {
+                three.make("edge(3, " + over + ", 2, 1)", "edge(" + over + ", 4, 2, 1)");
+            }
+            three.make("wagon(0, 3)").due("send(0, 4)", 4).due("where(0, 1)", 3).due("where(0, 2)", 0).due("where(0, 4)", 4);
+        }
+        // An EDGE elsewhere that is as long as the first step doesn't lead on, nor does one of no RAIL.
+        Run z = new Run(due, "promise 30, EDGES elsewhere").times(5, "parish(1, 1)").make("edge(0, 2, 1, 1)", "edge(2, 3, 2, 1)");
+        z.make("edge(1, 3, 2, 1)", "edge(2, 4, 1, 1)", "edge(0, 1, 1, 0)", "wagon(0, 0)").due("send(0, 3)", 3).due("where(0, 1)", 2);
         // A shorter way by greater PARISHES is taken all the same, and an EDGE that is no RAIL isn't.
         Run y = new Run(due, "promise 30, the fewest days").times(4, "parish(1, 1)").make("edge(0, 3, 1, 1)", "edge(3, 2, 1, 1)");
         y.make("edge(0, 1, 1, 1)", "edge(1, 2, 2, 1)", "edge(0, 2, 1, 0)", "wagon(0, 0)").due("send(0, 2)", 2).due("where(0, 1)", 3);

@@ -1,11 +1,4 @@
-import java.lang.reflect.InvocationTargetException;
-import java.lang.reflect.Method;
-import java.lang.reflect.Modifier;
 import java.util.Arrays;
-import java.util.Comparator;
-import java.util.HashMap;
-import java.util.List;
-import java.util.Map;
 import java.util.Random;
 
 /**
@@ -23,30 +16,24 @@ public final class ExtremesTest {
     private static final int[] FEW = {LEAST, -2, -1, 0, 1, 2, 3, 9, 10, 12, 24, GREATEST};
 
     private static final Due due = new Due();
-    private static final Map<String, Method> MODEL = new HashMap<>();
+    private static final Calls LAND = new Calls(PartedLand.class);
+    private static final Calls MODEL = new Calls(LandModel.class);
 
     private ExtremesTest() {
     }
 
     public static void main(String[] args) {
-        for (Method method : LandModel.class.getDeclaredMethods()) {
-            if (Modifier.isPublic(method.getModifiers())) {
-                MODEL.put(method.getName(), method);
-            }
-        }
-        List<Method> calls = Arrays.stream(PartedLand.class.getDeclaredMethods()).filter(one -> Modifier.isPublic(one.getModifiers()))
-            .sorted(Comparator.comparing(Method::getName)).toList();
         for (Run land : Lands.all(due, "extremes")) {
-            for (Method call : calls) {
+            for (String call : LAND.names()) {
                 allNumbers(land, call);
             }
+            beyondThe512thCall(land.again());
         }
-        beyondThe512thCall(calls);
         due.end();
     }
 
-    private static void allNumbers(Run land, Method call) {
-        int places = call.getParameterCount();
+    private static void allNumbers(Run land, String call) {
+        int places = LAND.places(call);
         int[] values = places <= 2 ? MANY : places == 3 ? SOME : FEW;
         int combinations = 1;
         for (int i = 0; i < places; i++) {
@@ -62,15 +49,15 @@ public final class ExtremesTest {
                 left = MOST_CALLS - land.size();
             }
             left--;
-            Object[] arguments = arguments(which, places, values);
-            int got = answer(call, x, arguments);
-            due.is(call.getName() + Arrays.toString(arguments), got, answer(MODEL.get(call.getName()), model, arguments));
+            int[] arguments = arguments(which, places, values);
+            int got = LAND.ask(x, call, arguments);
+            due.is(call + Arrays.toString(arguments), got, MODEL.ask(model, call, arguments));
             due.holds("a finding or above LOW: " + got, got > Due.LOW || got >= Due.KIND && got <= Due.BEYOND);
         }
     }
 
-    private static Object[] arguments(int which, int places, int[] values) {
-        Object[] arguments = new Object[places];
+    private static int[] arguments(int which, int places, int[] values) {
+        int[] arguments = new int[places];
         int left = which;
         for (int i = 0; i < places; i++) {
             arguments[i] = values[left % values.length];
@@ -80,26 +67,15 @@ public final class ExtremesTest {
     }
 
     /** What later calls answer is free, but they must not throw. */
-    private static void beyondThe512thCall(List<Method> calls) {
+    private static void beyondThe512thCall(PartedLand x) {
         Random random = new Random(1);
-        for (Run land : Lands.all(due, "extremes")) {
-            PartedLand x = land.again();
-            for (int i = 0; i < 20000; i++) {
-                Method call = calls.get(random.nextInt(calls.size()));
-                Object[] arguments = new Object[call.getParameterCount()];
-                for (int k = 0; k < arguments.length; k++) {
-                    arguments[k] = random.nextInt(3) == 0 ? MANY[random.nextInt(MANY.length)] : random.nextInt(12);
-                }
-                answer(call, x, arguments);
+        for (int i = 0; i < 20000; i++) {
+            String call = LAND.names()[random.nextInt(LAND.names().length)];
+            int[] arguments = new int[LAND.places(call)];
+            for (int k = 0; k < arguments.length; k++) {
+                arguments[k] = random.nextInt(3) == 0 ? MANY[random.nextInt(MANY.length)] : random.nextInt(12);
             }
-        }
-    }
-
-    private static int answer(Method method, Object on, Object[] arguments) {
-        try {
-            return (Integer) method.invoke(on, arguments);
-        } catch (IllegalAccessException | InvocationTargetException problem) {
-            throw new IllegalStateException(method.getName() + Arrays.toString(arguments), problem);
+            LAND.ask(x, call, arguments);
         }
     }
 }

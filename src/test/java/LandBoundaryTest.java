@@ -284,6 +284,11 @@ public final class LandBoundaryTest {
         for (int y : new int[] {0, 1, 50, 98, 99}) {
             lineIs(whole, y, y);
         }
+        // PEGS one y apart.
+        lineIs("peg(10, 10); peg(90, 11)", 10, 10);
+        lineIs("peg(10, 10); peg(90, 11)", 11, 90);
+        lineIs("peg(10, 10); peg(90, 11); peg(20, 12)", 11, 90);
+        lineIs("peg(10, 10); peg(90, 11); peg(20, 12)", 12, 20);
         String three = "peg(10, 10); peg(30, 20); peg(20, 30)";
         int[][] more = {{9, 10}, {10, 10}, {11, 12}, {19, 28}, {20, 30}, {21, 29}, {29, 21}, {30, 20}, {31, 20}};
         for (int[] point : more) {
@@ -312,6 +317,9 @@ public final class LandBoundaryTest {
         Run x = new Run(due, "promise 7, PEGS told later").make("parish(50, 50)", "settle(0, 1)").due("side(0)", 1);
         x.make("peg(51, 10)").due("side(0)", 0).make("peg(50, 20)").due("side(0)", 1).make("settle(0, 0)").due("side(0)", 0);
         x.make("peg(48, 80)").due("side(0)", 1).make("peg(99, 81)").due("side(0)", 1);
+        // Each PARISH at its own y.
+        Run y = new Run(due, "promise 7, each at its own y").make("parish(50, 0)", "parish(50, 99)", "peg(20, 0)", "peg(80, 99)");
+        y.due("side(0)", 1).due("side(1)", 0);
     }
 
     // ---- promise 8: enclave

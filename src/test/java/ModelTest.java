@@ -1,11 +1,6 @@
-import java.lang.reflect.InvocationTargetException;
-import java.lang.reflect.Method;
 import java.util.ArrayList;
 import java.util.Arrays;
-import java.util.Comparator;
-import java.util.HashMap;
 import java.util.List;
-import java.util.Map;
 import java.util.Random;
 
 /** Random runs of calls, always the same ones, on PartedLand and on LandModel: both must answer alike. */
@@ -18,27 +13,14 @@ public final class ModelTest {
 
     private static final Due due = new Due();
 
-    private final Map<String, Method> land = new HashMap<>();
-    private final Map<String, Method> model = new HashMap<>();
-    private final List<Method> calls = new ArrayList<>();
+    private final Calls land = new Calls(PartedLand.class);
+    private final Calls model = new Calls(LandModel.class);
     private final List<String> log = new ArrayList<>();
     private Random random = new Random(0);
     private PartedLand one = new PartedLand();
     private LandModel other = new LandModel();
 
     private ModelTest() {
-        for (Method method : PartedLand.class.getDeclaredMethods()) {
-            if (java.lang.reflect.Modifier.isPublic(method.getModifiers())) {
-                land.put(method.getName(), method);
-                calls.add(method);
-            }
-        }
-        calls.sort(Comparator.comparing(Method::getName));
-        for (Method method : LandModel.class.getDeclaredMethods()) {
-            if (java.lang.reflect.Modifier.isPublic(method.getModifiers())) {
-                model.put(method.getName(), method);
-            }
-        }
     }
 
     public static void main(String[] args) {
@@ -92,11 +74,11 @@ public final class ModelTest {
         } else if (kind == 4) {
             tellAll();
         } else {
-            Method call = calls.get(random.nextInt(calls.size()));
-            if (call.getName().equals("day") && random.nextInt(3) != 0) {
+            String call = land.names()[random.nextInt(land.names().length)];
+            if (call.equals("day") && random.nextInt(3) != 0) {
                 return;
             }
-            ask(call.getName(), argumentsOf(call));
+            ask(call, argumentsOf(call));
         }
     }
 
@@ -154,15 +136,15 @@ public final class ModelTest {
         ask("check");
     }
 
-    private int[] argumentsOf(Method call) {
-        int[] arguments = new int[call.getParameterCount()];
+    private int[] argumentsOf(String call) {
+        int[] arguments = new int[land.places(call)];
         for (int i = 0; i < arguments.length; i++) {
             arguments[i] = anyNumber();
         }
         if (random.nextInt(12) == 0) {
             return arguments;
         }
-        return fitting(call.getName(), arguments);
+        return fitting(call, arguments);
     }
 
     private int anyNumber() {
@@ -297,20 +279,11 @@ public final class ModelTest {
         }
         String call = name + Arrays.toString(arguments);
         log.add(call);
-        Object[] boxed = Arrays.stream(arguments).boxed().toArray();
-        int got = answer(land.get(name), one, boxed);
-        int want = answer(model.get(name), other, boxed);
+        int got = land.ask(one, name, arguments);
+        int want = model.ask(other, name, arguments);
         due.is(call, got, want);
         if (got != want) {
             System.out.println(String.join(" ", log));
-        }
-    }
-
-    private static int answer(Method method, Object on, Object[] arguments) {
-        try {
-            return (Integer) method.invoke(on, arguments);
-        } catch (IllegalAccessException | InvocationTargetException problem) {
-            throw new IllegalStateException(method.getName() + Arrays.toString(arguments), problem);
         }
     }
 }

@@ -59,6 +59,7 @@ public final class PersonsBoundaryTest {
         x.refusedBeside("person(?, 0)", -1, 1).refusedBeside("person(0, ?)", -1, 1).due("count(3)", 1);
         x.times(11, "parish(90, 0)").due("person(11, 0)", 1).due("person(0, 11)", 2);
         x.refused("person(12, 0)", BEYOND).refused("person(0, 12)", BEYOND).due("whose(1, 2)", 0).due("whose(2, 2)", 1);
+        x.enact("pb;").due("whose(0, 2)", 0).due("whose(1, 2)", 1).due("whose(2, 2)", 0);
         Lands.some(due, "promise 10").refusedBeside("person(?, 0)", -1, 3).refusedBeside("person(2, ?)", -1, 3);
         Lands.full(due, "promise 10").refusedBeside("person(?, 0)", -1, 12).refusedBeside("person(11, ?)", -1, 12);
     }
@@ -98,6 +99,9 @@ public final class PersonsBoundaryTest {
         x.due("work(0, 600, 599)", 1).due("whose(0, 2)", 0).due("work(0, 599, 600)", 1).due("whose(0, 2)", 1);
         x.refusedBeside("work(0, ?, 0)", -1, 601).refusedBeside("work(0, 0, ?)", -1, 601).refusedBeside("work(?, 0, 0)", -1, 1);
         x.due("pension(0, 1199, 0)", 599).due("work(0, 0, 0)", 1).due("pension(0, 1199, 0)", 599).due("pension(0, 1199, 1)", 600);
+        x.make("person(0, 0)", "work(1, 3, 1)").due("whose(1, 2)", 0).due("pension(1, 8, 0)", 6).make("work(1, 1, 3)").due("whose(1, 2)", 1);
+        x.due("pension(1, 8, 0)", 2).make("work(0, 7, 0)", "work(1, 4, 4)").due("whose(1, 2)", NONE).due("whose(0, 2)", 0).due("pension(1, 8, 1)", 4);
+        x.make("work(0, 0, 7)", "work(1, 6, 5)").due("whose(1, 2)", 0).due("whose(0, 2)", 1);
         Lands.some(due, "promise 12").refusedBeside("work(0, ?, 600)", -1, 601).refusedBeside("work(0, 600, ?)", -1, 601)
             .refusedBeside("work(?, 1, 1)", -1, 3).due("pension(0, 8, 0)", 5);
         Lands.full(due, "promise 12").refusedBeside("work(?, 1, 1)", -1, 16).due("work(15, 600, 0)", 1).due("pension(15, 9, 0)", 9);
@@ -119,6 +123,10 @@ public final class PersonsBoundaryTest {
         Run x = withPerson("promise 13, DAY 0 and k 0").enact("pc;k0;").make("choose(0, 1)").due("whose(0, 2)", 1);
         x.make("day(1)").due("whose(0, 2)", 1).refused("choose(0, 2)", BEYOND).due("whose(0, 2)", 1);
         x.due("choose(0, 1)", 1).due("whose(0, 2)", NONE).due("choose(0, 0)", 1).due("whose(0, 2)", NONE);
+        // Each PERSON's CHOICE has its own DAY.
+        x.make("person(0, 0)", "person(0, 0)").due("whose(1, 2)", NONE).make("choose(2, 0)").due("whose(2, 2)", NONE);
+        Run w = withPerson("promise 13, of two PERSONS").make("person(0, 0)", "choose(0, 1)", "day(9)", "choose(1, 1)").enact("pc;k8;");
+        w.due("whose(0, 2)", 1).due("whose(1, 2)", NONE).make("choose(0, 0)").due("whose(0, 2)", NONE);
         Run y = withPerson("promise 13, DAY 10").make("day(10)", "choose(0, 0)");
         y.propose(0, "pc;k9;", 0).due("whose(0, 0)", NONE).propose(0, "pc;k10;", 0).due("whose(0, 0)", 0);
         y.propose(0, "pc;k11;", 0).due("whose(0, 0)", 0).propose(0, "pc;k009;", 0).due("whose(0, 0)", NONE);
@@ -359,6 +367,9 @@ public final class PersonsBoundaryTest {
 
     private static void promise18LeastAndGreatest() {
         lawIs("", 400, 50, 0, 9, 12, 2, 0);
+        // Without a ROW of a letter, though the text before it had one.
+        Run x = new Run(due, "promise 18, without a ROW").enact("k0;s00;dl;c0;u00;pc;").enact("k1;");
+        x.due("law(0)", 1).due("law(1)", 50).due("law(2)", 0).due("law(3)", 9).due("law(4)", 12).due("law(5)", 2).enact("c1;").due("law(0)", 400);
         lawIs("k0;s00;ds;c0;u00;pc;", 0, 0, 0, 0, 0, 1, 0);
         lawIs("k999;s99;dl;c9;u24;pchbw;", 999, 99, 1, 9, 24, 4, 0);
         lawIs("k000;s01;u01;c1;pbw;", 0, 1, 0, 1, 1, 2, 0);

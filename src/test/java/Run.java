@@ -1,10 +1,5 @@
-import java.lang.reflect.InvocationTargetException;
-import java.lang.reflect.Method;
-import java.lang.reflect.Modifier;
 import java.util.ArrayList;
-import java.util.HashMap;
 import java.util.List;
-import java.util.Map;
 
 /**
  * A run of calls on a new object, each told as it is written ("parish(10, 10)"), for the boundary tests. It
@@ -12,24 +7,16 @@ import java.util.Map;
  */
 final class Run {
     private static final int MOST_CALLS = 512;
-    private static final Map<String, Method> METHODS = publicMethods(PartedLand.class);
-    private static final Map<String, Method> MODEL_METHODS = publicMethods(LandModel.class);
+    private static final Calls LAND = new Calls(PartedLand.class);
+    private static final Calls MODEL = new Calls(LandModel.class);
 
-    private record Call(String text, String name, Object[] arguments) {
+    private record Call(String name, int... arguments) {
         int on(PartedLand land) {
-            return invoke(METHODS.get(name), land);
+            return LAND.ask(land, name, arguments);
         }
 
         int on(LandModel model) {
-            return invoke(MODEL_METHODS.get(name), model);
-        }
-
-        private int invoke(Method method, Object object) {
-            try {
-                return (Integer) method.invoke(object, arguments);
-            } catch (IllegalAccessException | InvocationTargetException problem) {
-                throw new IllegalStateException(text, problem);
-            }
+            return MODEL.ask(model, name, arguments);
         }
     }
 
@@ -43,24 +30,14 @@ final class Run {
         this.name = name;
     }
 
-    private static Map<String, Method> publicMethods(Class<?> type) {
-        Map<String, Method> all = new HashMap<>();
-        for (Method method : type.getDeclaredMethods()) {
-            if (Modifier.isPublic(method.getModifiers())) {
-                all.put(method.getName(), method);
-            }
-        }
-        return all;
-    }
-
     private static Call read(String text) {
         int bracket = text.indexOf('(');
         String inside = text.substring(bracket + 1, text.length() - 1).trim();
-        Object[] arguments = new Object[inside.isEmpty() ? 0 : inside.split(",").length];
+        int[] arguments = new int[inside.isEmpty() ? 0 : inside.split(",").length];
         for (int i = 0; i < arguments.length; i++) {
-            arguments[i] = Integer.valueOf(inside.split(",")[i].trim());
+            arguments[i] = Integer.parseInt(inside.split(",")[i].trim());
         }
-        return new Call(text, text.substring(0, bracket), arguments);
+        return new Call(text.substring(0, bracket), arguments);
     }
 
     private int ask(String text) {

@@ -280,6 +280,8 @@ public final class ThingsBoundaryTest {
         go(moved("promise 24, below the aim is nearest", 45, 56), "01").due("rest(0)", 5);
         go(moved("promise 24, below it", 56, 45), "10").due("rest(0)", 5);
         go(moved("promise 24, hit", 50, 51), "01").due("rest(0)", 0);
+        go(moved("promise 24, 1 off isn't a hit", 9, 10).enact("s53;"), "10").due("rest(0)", 0);
+        go(moved("promise 24, 1 off on the other side", 11, 10).enact("s50;"), "10").due("rest(0)", 0);
         go(moved("promise 24, above the aim is nearest", 51, 49).enact("s51;"), "01").due("rest(0)", 0);
         // 3 is the aim: 4 is 1 off, nothing is 3 off.
         go(moved("promise 24, above it", 4, 96).enact("s03;"), "01").due("rest(0)", -1);
