@@ -14,55 +14,55 @@ public final class PromiseTest {
     }
 
     public static void main(String[] args) {
-        newObject();
-        parish();
-        edge();
-        peg();
-        settle();
-        seat();
-        side();
-        enclave();
-        far();
-        person();
-        move();
-        work();
-        choose();
-        whose();
-        pension();
-        feed();
-        propose();
-        faults();
-        law();
-        differ();
-        thing();
-        as();
-        tie();
-        part();
-        goes();
-        goesByDebts();
-        goesByTies();
-        rest();
-        hoard();
-        week();
-        stamp();
-        wagon();
-        send();
-        where();
-        home();
-        day();
-        open();
-        copy();
-        court();
-        waits();
-        task();
-        ahead();
-        best();
-        tell();
-        check();
-        count();
-        found();
-        findingsChangeNothing();
-        fullRows();
+        promise1NewObject();
+        promise2Parish();
+        promise3Edge();
+        promise4Peg();
+        promise5Settle();
+        promise6Seat();
+        promise7Side();
+        promise8Enclave();
+        promise9Far();
+        promise10Person();
+        promise11Move();
+        promise12Work();
+        promise13Choose();
+        promise14Whose();
+        promise15Pension();
+        promise16Feed();
+        promise17Propose();
+        promise17Faults();
+        promise18Law();
+        promise19Differ();
+        promise20Thing();
+        promise21As();
+        promise22Tie();
+        promise23Part();
+        promise24Goes();
+        promise24GoesByDebts();
+        promise24GoesByTies();
+        promise25Rest();
+        promise26Hoard();
+        promise27Week();
+        promise28Stamp();
+        promise29Wagon();
+        promise30Send();
+        promise31Where();
+        promise32Home();
+        promise33Day();
+        promise34Open();
+        promise35Copy();
+        promise36Court();
+        promise37Waits();
+        promise38Task();
+        promise39Ahead();
+        promise40Best();
+        promise41Tell();
+        promise42Check();
+        promise43Count();
+        promise44Found();
+        promises1To44FindingsChangeNothing();
+        promises1To44FullRows();
         due.end();
     }
 
@@ -90,7 +90,7 @@ public final class PromiseTest {
         propose(x, 1, text);
     }
 
-    private static void newObject() {
+    private static void promise1NewObject() {
         due.begin("promise 1");
         PartedLand x = new PartedLand();
         for (int what = 0; what <= 13; what++) {
@@ -119,7 +119,7 @@ public final class PromiseTest {
         due.is("count(0) of another object", other.count(0), 0);
     }
 
-    private static void parish() {
+    private static void promise2Parish() {
         due.begin("promise 2");
         PartedLand x = new PartedLand();
         due.is("parish(0, 0)", x.parish(0, 0), 0);
@@ -137,7 +137,7 @@ public final class PromiseTest {
         due.is("count(0)", x.count(0), 12);
     }
 
-    private static void edge() {
+    private static void promise3Edge() {
         due.begin("promise 3");
         PartedLand x = twoParishes();
         due.is("edge(0, 1, 1, 0)", x.edge(0, 1, 1, 0), 1);
@@ -160,7 +160,7 @@ public final class PromiseTest {
         due.is("count(1)", x.count(1), 30);
     }
 
-    private static void peg() {
+    private static void promise4Peg() {
         due.begin("promise 4");
         PartedLand x = new PartedLand();
         due.is("peg(-1, 0)", x.peg(-1, 0), BEYOND);
@@ -177,7 +177,7 @@ public final class PromiseTest {
         due.is("count(2)", x.count(2), 8);
     }
 
-    private static void settle() {
+    private static void promise5Settle() {
         due.begin("promise 5");
         PartedLand x = twoParishes();
         due.is("settle(0, 1)", x.settle(0, 1), 0);
@@ -190,7 +190,7 @@ public final class PromiseTest {
         due.is("settle(-1, 0)", x.settle(-1, 0), BEYOND);
     }
 
-    private static void seat() {
+    private static void promise6Seat() {
         due.begin("promise 6");
         PartedLand x = new PartedLand();
         due.is("seat(0, 0) without PARISHES", x.seat(0, 0), BEYOND);
@@ -205,7 +205,7 @@ public final class PromiseTest {
         due.is("seat(0, -1)", x.seat(0, -1), BEYOND);
     }
 
-    private static void side() {
+    private static void promise7Side() {
         due.begin("promise 7");
         PartedLand x = new PartedLand();
         x.parish(49, 0);
@@ -223,10 +223,10 @@ public final class PromiseTest {
         for (int wrong : WRONG_NUMBERS) {
             due.is("side(" + wrong + ")", x.side(wrong), BEYOND);
         }
-        slantedLine();
+        promise7SlantedLine();
     }
 
-    private static void slantedLine() {
+    private static void promise7SlantedLine() {
         int[][] pegs = {{60, 10}, {40, 13}, {70, 20}};
         // y, and the x of THE LINE there: a falling piece is cut toward the peg it starts from.
         int[][] line = {{0, 60}, {10, 60}, {11, 54}, {12, 47}, {13, 40}, {14, 44}, {16, 52}, {19, 65}, {20, 70}, {99, 70}};
@@ -248,7 +248,7 @@ public final class PromiseTest {
         due.is("one PEG, y above", x.side(x.parish(29, 99)), 0);
     }
 
-    private static void enclave() {
+    private static void promise8Enclave() {
         due.begin("promise 8");
         PartedLand x = new PartedLand();
         for (int i = 0; i < 4; i++) {
@@ -281,7 +281,7 @@ public final class PromiseTest {
         due.is("enclave(6)", x.enclave(6), BEYOND);
     }
 
-    private static void far() {
+    private static void promise9Far() {
         due.begin("promise 9");
         PartedLand x = new PartedLand();
         for (int i = 0; i < 5; i++) {
@@ -305,10 +305,10 @@ public final class PromiseTest {
         due.is("far(-1, 0, 0)", x.far(-1, 0, 0), BEYOND);
         due.is("far(0, 4, 2)", x.far(0, 4, 2), BEYOND);
         due.is("far(0, 4, -1)", x.far(0, 4, -1), BEYOND);
-        longChain();
+        promise9LongChain();
     }
 
-    private static void longChain() {
+    private static void promise9LongChain() {
         PartedLand x = new PartedLand();
         for (int i = 0; i < 12; i++) {
             x.parish(10, i);
@@ -328,7 +328,7 @@ public final class PromiseTest {
         due.is("where(0, 99)", x.where(0, 99), 11);
     }
 
-    private static void person() {
+    private static void promise10Person() {
         due.begin("promise 10");
         PartedLand x = twoParishes();
         due.is("person(0, 1)", x.person(0, 1), 0);
@@ -345,7 +345,7 @@ public final class PromiseTest {
         due.is("count(3)", x.count(3), 16);
     }
 
-    private static void move() {
+    private static void promise11Move() {
         due.begin("promise 11");
         PartedLand x = twoParishes();
         x.person(0, 0);
@@ -362,7 +362,7 @@ public final class PromiseTest {
         due.is("BIRTH stays", x.whose(0, 2), 0);
     }
 
-    private static void work() {
+    private static void promise12Work() {
         due.begin("promise 12");
         PartedLand x = twoParishes();
         x.person(0, 0);
@@ -381,7 +381,7 @@ public final class PromiseTest {
         due.is("each half", x.pension(0, 10, 1), 5);
     }
 
-    private static void choose() {
+    private static void promise13Choose() {
         due.begin("promise 13");
         PartedLand x = twoParishes();
         x.person(0, 0);
@@ -406,7 +406,7 @@ public final class PromiseTest {
         due.is("told on DAY 6, k 5", x.whose(0, 2), NONE);
     }
 
-    private static void whose() {
+    private static void promise14Whose() {
         due.begin("promise 14");
         PartedLand x = twoParishes();
         x.person(1, 0);
@@ -454,7 +454,7 @@ public final class PromiseTest {
         due.is("k 399 on DAY 400", y.whose(0, 0), NONE);
     }
 
-    private static void pension() {
+    private static void promise15Pension() {
         due.begin("promise 15");
         PartedLand x = twoParishes();
         x.person(0, 0);
@@ -477,7 +477,7 @@ public final class PromiseTest {
         due.is("pension(-1, 1, 0)", x.pension(-1, 1, 0), BEYOND);
     }
 
-    private static void feed() {
+    private static void promise16Feed() {
         due.begin("promise 16");
         PartedLand x = new PartedLand();
         due.is("feed(0, 0)", x.feed(0, 0), BEYOND);
@@ -505,7 +505,7 @@ public final class PromiseTest {
         due.is("count(9) then", x.count(9), 50);
     }
 
-    private static void propose() {
+    private static void promise17Propose() {
         due.begin("promise 17");
         PartedLand x = new PartedLand();
         due.is("the empty text is THE LAW", x.propose(0), 1);
@@ -533,7 +533,7 @@ public final class PromiseTest {
         due.is("50 bytes without fault", propose(x, 0, "c1;".repeat(14) + "s12;k77;"), 0);
     }
 
-    private static void faults() {
+    private static void promise17Faults() {
         due.begin("promise 17, FAULTS");
         String[] right = {"", "pc;", "phbwc;", "pwc;", "k0;", "k12;", "k999;", "s00;", "s99;", "dl;", "ds;", "c0;", "c9;",
             "u00;", "u24;", "u19;", "u20;", "pb;pc;pb;", "k1;s22;dl;c3;u04;ph;"};
@@ -557,7 +557,7 @@ public final class PromiseTest {
         }
     }
 
-    private static void law() {
+    private static void promise18Law() {
         due.begin("promise 18");
         PartedLand x = new PartedLand();
         x.day(3);
@@ -589,7 +589,7 @@ public final class PromiseTest {
         due.is("since DAY 10", x.law(6), 10);
     }
 
-    private static void differ() {
+    private static void promise19Differ() {
         due.begin("promise 19");
         PartedLand x = new PartedLand();
         due.is("none PROPOSED", x.differ(), STATE);
@@ -612,7 +612,7 @@ public final class PromiseTest {
         due.is("HOUSE 1 hasn't", y.differ(), STATE);
     }
 
-    private static void thing() {
+    private static void promise20Thing() {
         due.begin("promise 20");
         PartedLand x = twoParishes();
         due.is("a THING", x.thing(0, 0), 0);
@@ -639,7 +639,7 @@ public final class PromiseTest {
         due.is("count(4) then", x.count(4), 24);
     }
 
-    private static void as() {
+    private static void promise21As() {
         due.begin("promise 21");
         PartedLand x = twoParishes();
         int[] kinds = {0, 1001, 2001, 3000, 4000, 5001, 6000};
@@ -659,7 +659,7 @@ public final class PromiseTest {
         due.is("as(-1, 0)", x.as(-1, 0), BEYOND);
     }
 
-    private static void tie() {
+    private static void promise22Tie() {
         due.begin("promise 22");
         PartedLand x = twoParishes();
         int[] kinds = {0, 1001, 2001, 3000, 4000, 5001, 6000};
@@ -686,7 +686,7 @@ public final class PromiseTest {
         due.is("count(5)", x.count(5), 12);
     }
 
-    private static void part() {
+    private static void promise23Part() {
         due.begin("promise 23");
         PartedLand x = twoParishes();
         x.thing(1001, 50);
@@ -713,10 +713,10 @@ public final class PromiseTest {
         due.is("a 25th", x.part(3, 1), FULL);
         due.is("STATE ahead of FULL", x.part(3, 9), STATE);
         due.is("nothing changed", x.as(3, 5), 9);
-        partsAreNotTied();
+        promise23PartsAreNotTied();
     }
 
-    private static void partsAreNotTied() {
+    private static void promise23PartsAreNotTied() {
         PartedLand x = twoParishes();
         x.thing(3000, 60);
         x.thing(4000, 40);
@@ -733,7 +733,7 @@ public final class PromiseTest {
         due.is("a part of a PAPER wasn't COPIED", x.copy(3), 1);
     }
 
-    private static void goes() {
+    private static void promise24Goes() {
         due.begin("promise 24");
         PartedLand x = twoParishes();
         x.thing(0, 5);
@@ -770,10 +770,10 @@ public final class PromiseTest {
         due.is("a THING of 15 GROUPS", x.goes(0), NONE);
         x.tie(4, 5);
         due.is("14 GROUPS by a TIE", x.goes(4), 1);
-        theLastOfManyGroups();
+        promise24TheLastOfManyGroups();
     }
 
-    private static void theLastOfManyGroups() {
+    private static void promise24TheLastOfManyGroups() {
         PartedLand x = twoParishes();
         for (int i = 0; i < 13; i++) {
             x.thing(3000, 2);
@@ -796,7 +796,7 @@ public final class PromiseTest {
         due.is("so 5 stays", y.goes(1), 0);
     }
 
-    private static void goesByDebts() {
+    private static void promise24GoesByDebts() {
         due.begin("promise 24, DEBTS");
         PartedLand x = twoParishes();
         x.thing(1001, 5);
@@ -830,7 +830,7 @@ public final class PromiseTest {
         due.is("another one of 15 GROUPS", y.goes(2), STATE);
     }
 
-    private static void goesByTies() {
+    private static void promise24GoesByTies() {
         due.begin("promise 24, TIES");
         PartedLand x = twoParishes();
         x.thing(1001, 0);
@@ -864,7 +864,7 @@ public final class PromiseTest {
         due.is("one GROUP over 12 TIES", y.rest(2), 1);
     }
 
-    private static void rest() {
+    private static void promise25Rest() {
         due.begin("promise 25");
         PartedLand x = twoParishes();
         x.thing(1000, 1000);
@@ -891,7 +891,7 @@ public final class PromiseTest {
         due.is("BEYOND ahead of STATE", x.rest(3), BEYOND);
     }
 
-    private static void hoard() {
+    private static void promise26Hoard() {
         due.begin("promise 26");
         PartedLand x = twoParishes();
         x.person(0, 0);
@@ -905,7 +905,7 @@ public final class PromiseTest {
         due.is("stamp(0, 1)", x.stamp(0, 1), 5);
     }
 
-    private static void week() {
+    private static void promise27Week() {
         due.begin("promise 27");
         PartedLand x = twoParishes();
         x.person(0, 0);
@@ -926,7 +926,7 @@ public final class PromiseTest {
         due.is("RATE 200 still", x.stamp(0, 0), 2000);
     }
 
-    private static void stamp() {
+    private static void promise28Stamp() {
         due.begin("promise 28");
         PartedLand x = new PartedLand();
         x.parish(10, 0);
@@ -968,10 +968,10 @@ public final class PromiseTest {
         due.is("stamp(-1, 0)", x.stamp(-1, 0), BEYOND);
         due.is("stamp(0, 3)", x.stamp(0, 3), BEYOND);
         due.is("stamp(0, -1)", x.stamp(0, -1), BEYOND);
-        firstWeek();
+        promise28FirstWeek();
     }
 
-    private static void firstWeek() {
+    private static void promise28FirstWeek() {
         PartedLand x = new PartedLand();
         x.parish(10, 0);
         x.parish(90, 0);
@@ -986,7 +986,7 @@ public final class PromiseTest {
         due.is("HOME counts", x.stamp(1, 2), 0);
     }
 
-    private static void wagon() {
+    private static void promise29Wagon() {
         due.begin("promise 29");
         PartedLand x = twoParishes();
         due.is("wagon(0, 1)", x.wagon(0, 1), 0);
@@ -1020,7 +1020,7 @@ public final class PromiseTest {
         return x;
     }
 
-    private static void send() {
+    private static void promise30Send() {
         due.begin("promise 30");
         PartedLand x = railways();
         x.wagon(0, 0);
@@ -1046,10 +1046,10 @@ public final class PromiseTest {
         x.day(400);
         due.is("above DAY 400", x.send(0, 0), 403);
         due.is("on its way", x.where(0, 400), 3);
-        leastParishFirst();
+        promise30LeastParishFirst();
     }
 
-    private static void leastParishFirst() {
+    private static void promise30LeastParishFirst() {
         // From 3 to 4 by 0 or by 1 or by 2, told in each order.
         for (int first = 0; first < 3; first++) {
             PartedLand x = new PartedLand();
@@ -1067,7 +1067,7 @@ public final class PromiseTest {
         }
     }
 
-    private static void where() {
+    private static void promise31Where() {
         due.begin("promise 31");
         PartedLand x = railways();
         x.day(10);
@@ -1089,7 +1089,7 @@ public final class PromiseTest {
         due.is("it never left", x.where(0, 13), 4);
     }
 
-    private static void home() {
+    private static void promise32Home() {
         due.begin("promise 32");
         PartedLand x = railways();
         x.wagon(1, 0);
@@ -1127,7 +1127,7 @@ public final class PromiseTest {
         due.is("PARISH 3 is of SIDE 1 then", y.home(0), 1);
     }
 
-    private static void day() {
+    private static void promise33Day() {
         due.begin("promise 33");
         PartedLand x = new PartedLand();
         due.is("day(0)", x.day(0), 0);
@@ -1141,7 +1141,7 @@ public final class PromiseTest {
         due.is("count(10) then", x.count(10), 400);
     }
 
-    private static void open() {
+    private static void promise34Open() {
         due.begin("promise 34");
         PartedLand x = twoParishes();
         x.person(0, 0);
@@ -1167,7 +1167,7 @@ public final class PromiseTest {
         due.is("count(7)", x.count(7), 10);
     }
 
-    private static void copy() {
+    private static void promise35Copy() {
         due.begin("promise 35");
         PartedLand x = twoParishes();
         x.thing(4000, 1);
@@ -1183,7 +1183,7 @@ public final class PromiseTest {
         }
     }
 
-    private static void court() {
+    private static void promise36Court() {
         due.begin("promise 36");
         PartedLand x = twoParishes();
         x.person(0, 1);
@@ -1208,7 +1208,7 @@ public final class PromiseTest {
         }
     }
 
-    private static void waits() {
+    private static void promise37Waits() {
         due.begin("promise 37");
         PartedLand x = twoParishes();
         x.person(0, 1);
@@ -1240,7 +1240,7 @@ public final class PromiseTest {
         due.is("15 GROUPS, COPIED", x.waits(0), NONE);
     }
 
-    private static void task() {
+    private static void promise38Task() {
         due.begin("promise 38");
         PartedLand x = new PartedLand();
         due.is("task(1)", x.task(1), 0);
@@ -1256,7 +1256,7 @@ public final class PromiseTest {
         due.is("count(8)", x.count(8), 9);
     }
 
-    private static void ahead() {
+    private static void promise39Ahead() {
         due.begin("promise 39");
         PartedLand x = new PartedLand();
         x.task(1);
@@ -1285,7 +1285,7 @@ public final class PromiseTest {
         due.is(what + ", no such place", x.best(order.length), NONE);
     }
 
-    private static void best() {
+    private static void promise40Best() {
         due.begin("promise 40");
         PartedLand x = new PartedLand();
         x.task(200);
@@ -1316,10 +1316,10 @@ public final class PromiseTest {
         isBest("three of them", y, 120, 1, 2, 3);
         y.ahead(6, 1);
         isBest("1 behind 6", y, 120, 2, 3, 4);
-        fewestDays();
+        promise40FewestDays();
     }
 
-    private static void fewestDays() {
+    private static void promise40FewestDays() {
         PartedLand x = new PartedLand();
         x.day(360);
         x.task(3);
@@ -1342,7 +1342,7 @@ public final class PromiseTest {
         isBest("0 and 3, or 1 and 2", y, 4, 0, 3);
     }
 
-    private static void tell() {
+    private static void promise41Tell() {
         due.begin("promise 41");
         PartedLand x = new PartedLand();
         for (int i = 1; i <= 16; i++) {
@@ -1355,7 +1355,7 @@ public final class PromiseTest {
         due.is("tell anew", x.tell(-5), 1);
     }
 
-    private static void check() {
+    private static void promise42Check() {
         due.begin("promise 42");
         PartedLand x = twoParishes();
         x.person(0, 0);
@@ -1388,7 +1388,7 @@ public final class PromiseTest {
         due.is("no finding was answered", x.found(2), 0);
     }
 
-    private static void count() {
+    private static void promise43Count() {
         due.begin("promise 43");
         PartedLand x = twoParishes();
         x.parish(10, 50);
@@ -1431,7 +1431,7 @@ public final class PromiseTest {
         due.is("count(-1)", x.count(-1), BEYOND);
     }
 
-    private static void found() {
+    private static void promise44Found() {
         due.begin("promise 44");
         PartedLand x = twoParishes();
         x.side(7);
@@ -1459,7 +1459,7 @@ public final class PromiseTest {
         due.is("these are counted", x.found(1), 5);
     }
 
-    private static void findingsChangeNothing() {
+    private static void promises1To44FindingsChangeNothing() {
         due.begin("FINDINGS");
         PartedLand x = twoParishes();
         x.person(0, 0);
@@ -1486,7 +1486,7 @@ public final class PromiseTest {
     }
 
     /** Where all is at its most, every call must still look no further than its rows go. */
-    private static void fullRows() {
+    private static void promises1To44FullRows() {
         due.begin("all at its most");
         PartedLand x = new PartedLand();
         for (int i = 0; i < 12; i++) {

@@ -1,5 +1,7 @@
 import java.util.ArrayList;
+import java.util.LinkedHashMap;
 import java.util.List;
+import java.util.Map;
 
 /**
  * A run of calls on a new object, each told as it is written ("parish(10, 10)"), for the boundary tests. It
@@ -124,6 +126,45 @@ final class Run {
         make(some);
         sameBut(String.join(" ", some), before, List.copyOf(calls), new int[6]);
         return this;
+    }
+
+    /**
+     * An act that must be answered so, and that changes what the changes tell ("count(0) = 4") and nothing else that
+     * can be seen.
+     */
+    Run changes(String call, int want, String... changes) {
+        Map<String, Integer> before = seen();
+        due.is(name + ": " + call, ask(call), want);
+        Map<String, Integer> after = seen();
+        List<String> found = new ArrayList<>();
+        for (String what : after.keySet()) {
+            if (!after.get(what).equals(before.get(what))) {
+                found.add(what + " = " + after.get(what));
+            }
+        }
+        for (String what : before.keySet()) {
+            if (!after.containsKey(what)) {
+                found.add(what + " = gone");
+            }
+        }
+        List<String> wanted = List.of(changes);
+        for (String change : found) {
+            due.holds(name + ": " + call + " changes " + change, wanted.contains(change));
+        }
+        for (String change : wanted) {
+            due.holds(name + ": " + call + " doesn't change " + change, found.contains(change));
+        }
+        return this;
+    }
+
+    private Map<String, Integer> seen() {
+        Map<String, Integer> answers = new LinkedHashMap<>();
+        for (int part = 0; part < Look.PARTS; part++) {
+            for (Look.Seen one : new Look(replay(calls), part).all()) {
+                answers.put(one.what(), one.answer());
+            }
+        }
+        return answers;
     }
 
     /** All that a text and its FAULT leave behind: nothing. */

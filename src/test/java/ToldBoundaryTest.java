@@ -131,6 +131,9 @@ public final class ToldBoundaryTest {
         Run x = Lands.two(due, "promise 43, nobody's").due("count(13)", 0).times(16, "person(0, 0)").due("count(13)", 0).enact("pc;");
         x.due("count(13)", 16).make("choose(15, 0)").due("count(13)", 15).make("choose(0, 1)").due("count(13)", 14);
         x.make("choose(0, -1)").due("count(13)", 15).enact("").due("count(13)", 0).due("found(2)", 0);
+        // By THE LAW, not by what one HOUSE holds to.
+        x.propose(0, "pw;", 0).due("count(13)", 0).propose(1, "pw;", 1).due("count(13)", 16).propose(0, "", 0).due("count(13)", 16);
+        x.propose(0, "pw;", 1).propose(1, "", 0).due("count(13)", 16).propose(0, "", 1).due("count(13)", 0);
     }
 
     // ---- promise 44: found
