@@ -66,7 +66,7 @@ public final class CasesBoundaryTest {
 
     private static void promise34PaperOrNone() {
         Run x = withPaper("promise 34, paper").refusedBeside("open(0, 0, 1, ?)", -2, 1).due("open(0, 0, 1, 0)", 0).due("open(0, 0, 1, -1)", 1);
-        x.due("open(1, 0, 9, 0)", 2);
+        x.due("open(1, 0, 9, 0)", 2).due("waits(2)", 0).make("copy(0)").due("open(1, 0, 9, 0)", 3).refused("waits(3)", NONE);
         Run y = Lands.two(due, "promise 34, no THING").make("person(0, 0)").refused("open(0, 0, 1, 0)", BEYOND).due("open(0, 0, 1, -1)", 0);
         y.refused("open(0, 0, 1, -2)", BEYOND);
         Lands.some(due, "promise 34, paper").refusedBeside("open(0, 0, 1, ?)", -2, 7);

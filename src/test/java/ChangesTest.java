@@ -41,6 +41,7 @@ public final class ChangesTest {
         promise41Tell();
         promise42Check();
         promises7To44WhatOnlyTells();
+        promises2To42OnTheLastDay();
         due.end();
     }
 
@@ -204,5 +205,17 @@ public final class ChangesTest {
         for (String call : calls) {
             some("promises 7 to 44, " + call).changesNothing(call);
         }
+    }
+
+    private static void promises2To42OnTheLastDay() {
+        // NEW YEAR ends nothing but what WAGONS and TASKS are asked for.
+        Run x = some("promises 2 to 42, DAY 400").due("day(400)", 380).due("check()", 0);
+        x.due("parish(1, 1)", 4).due("edge(0, 1, 1, 1)", 4).due("peg(1, 99)", 3).due("settle(2, 0)", 1).due("seat(0, 2)", 0);
+        x.due("person(0, 0)", 3).due("move(0, 0)", 1).due("work(0, 1, 2)", 1).due("choose(0, 1)", 0).due("pension(0, 9, 0)", 3);
+        x.due("feed(59, 1)", 3).due("propose(1)", 0).propose(0, "c3;", 1).due("law(6)", 400).due("whose(0, 2)", 0).due("differ()", -1);
+        x.due("thing(3000, 5)", 7).due("tie(3, 5)", 2).due("part(3, 1)", 8).due("as(8, 3)", 1).due("rest(2)", 4);
+        x.due("hoard(0, 5)", 500).due("week(1001, 0, 0)", 1).due("stamp(0, 1)", 75).due("wagon(0, 0)", 3).due("send(3, 1)", 401);
+        x.due("where(3, 400)", 0).due("home(3)", 0).due("open(1, 0, 3, 4)", 3).due("court(3)", 1).due("copy(4)", 1);
+        x.due("task(1)", 3).due("ahead(2, 0)", 1).due("best(-1)", 0).due("tell(0)", 1).due("check()", 0).due("day(400)", 0);
     }
 }

@@ -13,6 +13,7 @@ import java.util.regex.Pattern;
 /** The face of the document, and those rules of LANGUAGE.md that can be seen in the class or in its source. */
 public final class LanguageTest {
     private static final String SOURCE = "src/main/java/PartedLand.java";
+    private static final String README = "README.md";
     private static final String FACE = "ahead(2) as(2) best(1) check(0) choose(2) copy(1) count(1) court(1) day(1) differ(0) edge(4)"
         + " enclave(1) far(3) feed(2) found(1) goes(1) hoard(2) home(1) law(1) move(2) open(4) parish(2) part(2) peg(2)"
         + " pension(3) person(2) propose(1) rest(1) seat(2) send(2) settle(2) side(1) stamp(2) task(1) tell(1) thing(2)"
@@ -33,6 +34,7 @@ public final class LanguageTest {
         }
         due.holds("at most twelve classes", PartedLand.class.getDeclaredClasses().length < 12);
         source(Files.readString(Path.of(SOURCE)));
+        readme(Files.readString(Path.of(README)));
         due.end();
     }
 
@@ -98,6 +100,17 @@ public final class LanguageTest {
             due.holds("no import but Arrays: " + line, !line.startsWith("import") || line.equals("import java.util.Arrays;"));
         }
         methodLengths(code);
+    }
+
+    /** The table of calls has a row for each method, with as many arguments, and none for another. */
+    private static void readme(String text) {
+        Set<String> told = new TreeSet<>();
+        Matcher row = Pattern.compile("(?m)^\\| `(\\w+)\\(([^)]*)\\)` \\|").matcher(text);
+        while (row.find()) {
+            String arguments = row.group(2);
+            told.add(row.group(1) + "(" + (arguments.isEmpty() ? 0 : arguments.split(",").length) + ")");
+        }
+        due.holds("README.md tells every call, not " + told, told.equals(new TreeSet<>(Set.of(FACE.split(" ")))));
     }
 
     private static void methodLengths(String code) {

@@ -41,6 +41,7 @@ public final class PersonsBoundaryTest {
         promise18LeastAndGreatest();
         promise18TheLastRowHolds();
         promise18SinceWhichDay();
+        promise18NotWhatOneHouseHoldsTo();
         promise19OneHasNotProposed();
         promise19WhereOneEnds();
         due.end();
@@ -376,6 +377,9 @@ public final class PersonsBoundaryTest {
         lawIs("k007;s10;u10;c5;phcw;", 7, 10, 0, 5, 10, 3, 0);
         lawIs("k7;", 7, 50, 0, 9, 12, 2, 0);
         lawIs("k70;", 70, 50, 0, 9, 12, 2, 0);
+        lawIs("k010;", 10, 50, 0, 9, 12, 2, 0);
+        lawIs("k077;", 77, 50, 0, 9, 12, 2, 0);
+        lawIs("k100;", 100, 50, 0, 9, 12, 2, 0);
         lawIs("s70;", 400, 70, 0, 9, 12, 2, 0);
         lawIs("dl;", 400, 50, 1, 9, 12, 2, 0);
         lawIs("c8;", 400, 50, 0, 8, 12, 2, 0);
@@ -403,6 +407,19 @@ public final class PersonsBoundaryTest {
         x.make("day(400)").enact("").due("law(6)", 400).due("law(3)", 9);
         Run y = new Run(due, "promise 18, the empty text is THE LAW since DAY 0").make("day(5)").enact("").due("law(6)", 0);
         y.make("day(6)").enact("c9;").due("law(6)", 6).due("law(3)", 9);
+    }
+
+    private static void promise18NotWhatOneHouseHoldsTo() {
+        String text = "k10;s20;dl;c3;u04;pchb;";
+        Run x = new Run(due, "promise 18, what one HOUSE holds to").enact(text);
+        for (int house = 0; house <= 1; house++) {
+            x.propose(house, "u05;", 0).due("law(0)", 10).due("law(1)", 20).due("law(2)", 1).due("law(3)", 3).due("law(4)", 4).due("law(5)", 3);
+            x.propose(house, text, 1);
+        }
+        Run y = new Run(due, "promise 18, what one HOUSE proposed first").propose(1, text, 0);
+        y.due("law(0)", 400).due("law(1)", 50).due("law(2)", 0).due("law(3)", 9).due("law(4)", 12).due("law(5)", 2);
+        y.propose(1, "", 1).propose(0, text, 0);
+        y.due("law(0)", 400).due("law(1)", 50).due("law(2)", 0).due("law(3)", 9).due("law(4)", 12).due("law(5)", 2);
     }
 
     // ---- promise 19: differ

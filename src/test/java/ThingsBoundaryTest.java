@@ -39,6 +39,8 @@ public final class ThingsBoundaryTest {
         promise24AsNearTheLeastThing();
         promise24WorthsOf0();
         promise24TiesOverOthers();
+        promise24TiesInEveryForm();
+        promise24ByTheLawAlone();
         promise24KeptNoLongerThanItHolds();
         promise25What();
         promise25FourteenGroups();
@@ -249,6 +251,8 @@ public final class ThingsBoundaryTest {
         Run y = new Run(due, "promise 24, on THE LINE").make("parish(50, 50)", "thing(1000, 1)", "thing(2000, 1)", "thing(5001, 5)");
         y.enact("dl;").due("goes(0)", 0).due("goes(2)", 0).make("settle(0, 1)").due("goes(0)", 1).due("goes(1)", 2).due("goes(2)", 1);
         y.make("peg(51, 0)").due("goes(0)", 0).due("goes(2)", 0);
+        // A USE goes to both, though all hours be of one SIDE.
+        y.enact("u00;").due("law(4)", 0).due("goes(1)", 2).enact("u24;").due("law(4)", 24).due("goes(1)", 2);
     }
 
     private static void promise24FourteenGroups() {
@@ -319,6 +323,39 @@ public final class ThingsBoundaryTest {
         // A left-out DEBT with a lesser number doesn't bring its GROUP ahead of another.
         Run z = Lands.two(due, "promise 24, the least THING that is parted").make("thing(1000, 0)", "thing(5000, 1)", "thing(3000, 40)");
         z.make("thing(3000, 60)", "tie(1, 3)").enact("dl;").due("goes(2)", 0).due("goes(3)", 1).due("rest(0)", 10);
+    }
+
+    private static void promise24TiesInEveryForm() {
+        // Stars from each end, chains told in several orders, a ring: 0 to 3 are one GROUP, 4 is another.
+        String[] forms = {"tie(0, 1) tie(0, 2) tie(0, 3)", "tie(1, 0) tie(2, 0) tie(3, 0)", "tie(3, 0) tie(3, 1) tie(3, 2)",
+            "tie(0, 3) tie(1, 3) tie(2, 3)", "tie(2, 0) tie(2, 1) tie(2, 3)", "tie(0, 1) tie(2, 3) tie(1, 2)", "tie(0, 1) tie(2, 3) tie(3, 0)",
+            "tie(2, 3) tie(1, 2) tie(0, 1)", "tie(3, 2) tie(2, 1) tie(1, 0)", "tie(0, 2) tie(1, 3) tie(1, 2)", "tie(3, 1) tie(1, 0) tie(2, 3)",
+            "tie(0, 1) tie(1, 2) tie(2, 3) tie(3, 0)"};
+        for (String form : forms) {
+            Run x = moved("promise 24, " + form, 10, 20, 30, 40, 100).make(form.replace(") ", ");").split(";"));
+            go(x.due("rest(2)", 2), "00001").due("rest(0)", 0);
+        }
+        for (int step : new int[] {1, 5}) {
+            Run x = Lands.two(due, "promise 24, a chain of 13 told by steps of " + step).times(14, "thing(3000, 1)");
+            for (int i = 0; i < 12; i++) {
+                int tie = 11 - i * step % 12;
+                x.make("tie(" + (tie + i % 2) + ", " + (tie + 1 - i % 2) + ")");
+            }
+            x.due("rest(2)", 2).due("rest(0)", 7 - 13).due("goes(0)", 0).due("goes(12)", 0).due("goes(13)", 1);
+        }
+    }
+
+    private static void promise24ByTheLawAlone() {
+        Run x = Lands.two(due, "promise 24, by THE LAW alone").make("thing(1001, 0)", "thing(5000, 4)", "thing(3000, 10)");
+        // What one HOUSE holds to doesn't count, also for what is asked for the first time behind it.
+        x.propose(0, "dl;s99;", 0).make("thing(6000, 8)").due("rest(2)", 3).due("rest(1)", 14).due("rest(0)", 1);
+        x.due("goes(1)", 0).due("goes(2)", 0).due("goes(3)", 1);
+        x.propose(0, "", 1).propose(1, "dl;s99;", 0).make("thing(6000, 0)").due("rest(2)", 4).due("rest(1)", 14).due("rest(0)", 1);
+        x.due("goes(1)", 0).due("goes(2)", 0).due("goes(3)", 1).due("goes(4)", 0);
+        // 99 hundredths of 18 are 17; DEBT 1 goes with PARISH 1.
+        x.propose(0, "dl;s99;", 1).due("rest(2)", 3).due("rest(1)", 18).due("rest(0)", -1).due("goes(1)", 1).due("goes(3)", 0);
+        x.propose(0, "", 0).make("thing(6000, 2)").due("rest(1)", 20).due("rest(0)", -1).due("goes(1)", 1).due("goes(5)", 0);
+        x.propose(0, "dl;s99;", 1).propose(1, "", 0).make("thing(6000, 3)").due("rest(1)", 23).due("rest(0)", -1).due("goes(1)", 1);
     }
 
     private static void promise24KeptNoLongerThanItHolds() {
